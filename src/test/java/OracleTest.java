@@ -11,15 +11,19 @@ public final class OracleTest {
     private final NearPlans x = new NearPlans();
     private final NaivePlans y = new NaivePlans();
     private final int decisionsMeant, valuesMeant, rulesMeant;
+    private final boolean wild;
+    private final int[] kindOfFact = new int[6];
     private int calls = 0;
 
     private OracleTest(Due due, long seed) {
         this.due = due;
         random = new Random(seed);
         boolean large = random.nextInt(8) == 0;
-        decisionsMeant = large ? 6 : random.nextInt(5) + 1;
-        valuesMeant = large ? 6 : random.nextInt(5) + 2;
+        decisionsMeant = large ? 6 : random.nextInt(6) + 1;
+        valuesMeant = large ? 6 : random.nextInt(decisionsMeant > 4 ? 3 : 5) + 2;
         rulesMeant = random.nextInt(13);
+        wild = random.nextInt(5) == 0;
+        for (int f = 0; f < 6; f++) kindOfFact[f] = random.nextInt(6);
     }
 
     public static void main(String[] args) {
@@ -34,7 +38,7 @@ public final class OracleTest {
         for (int i = 0; i < before; i++) anyCall();
         for (int d = 0; d < decisionsMeant; d++) goodDecision();
         int facts = random.nextInt(6) + 1;
-        for (int f = 0; f < facts; f++) fact(goodFact());
+        for (int f = 0; f < facts; f++) fact(goodFact(f));
         for (int r = 0; r < rulesMeant; r++) goodRule();
         for (int d = 0; d < decisionsMeant; d++) {
             if (random.nextBoolean()) weight(d, random.nextInt(random.nextBoolean() ? 3 : 101), random.nextInt(random.nextBoolean() ? 3 : 21));
@@ -45,13 +49,23 @@ public final class OracleTest {
         while (calls < 200) anyCall();
     }
 
-    private int goodFact() {
-        return random.nextInt(5) == 0 ? random.nextInt(41) - 20 : random.nextInt(8) - 1;
+    /** One that most plans can live with, if the rules about it are of its kind. */
+    private int goodFact(int fact) {
+        if (wild || random.nextInt(20) == 0) return random.nextInt(41) - 20;
+        int slack = random.nextInt(10) == 0 ? random.nextInt(2) : 1 + random.nextInt(3);
+        switch (fact < 0 || fact > 5 ? 0 : kindOfFact[fact]) {
+            case 0: return slack;
+            case 1: return 3 + 2 * slack;
+            case 2: return 6 - 2 * slack;
+            case 3: return Math.max(0, 3 - slack);
+            case 4: return slack;
+            default: return 1 + slack;
+        }
     }
 
     private void goodDecision() {
         int low = random.nextInt(6), high = Math.min(5, low + random.nextInt(valuesMeant));
-        if (random.nextBoolean()) {
+        if (random.nextInt(4) > 0) {
             low = 0;
             high = Math.min(5, valuesMeant - 1);
         }
@@ -60,8 +74,12 @@ public final class OracleTest {
 
     private void goodRule() {
         int n = Math.max(1, y.decisions.size());
-        int kind = random.nextInt(6);
-        rule(kind, random.nextInt(n), kind == 5 ? random.nextInt(6) : random.nextInt(n), random.nextInt(Math.max(1, y.facts.size())));
+        int fact = random.nextInt(Math.max(1, y.facts.size()));
+        int kind = wild || fact > 5 ? random.nextInt(6) : kindOfFact[fact];
+        int a = random.nextInt(n);
+        int b = kind == 5 ? random.nextInt(6) : random.nextInt(n);
+        if (a == b && kind != 5 && random.nextInt(8) > 0) b = (a + 1) % n;
+        rule(kind, a, b, fact);
     }
 
     /** Mostly what fits, now and then what does not. */
@@ -86,8 +104,8 @@ public final class OracleTest {
             case 3: pin(someDecision(), random.nextInt(3) > 0 ? NONE : some(5)); break;
             case 4: limit(some(3), random.nextInt(3) > 0 ? 6 : some(6)); break;
             case 5: fact(some(40) - 20); break;
-            case 6: case 7: case 8: change(some(y.facts.size() - 1), random.nextInt(10) == 0 ? some(40) - 20 : goodFact()); break;
-            case 9: rule(some(5), someDecision(), random.nextBoolean() ? someDecision() : some(5), some(y.facts.size() - 1)); break;
+            case 6: case 7: case 8: anyChange(); break;
+            case 9: if (random.nextInt(3) > 0) goodRule(); else rule(some(5), someDecision(), random.nextBoolean() ? someDecision() : some(5), some(y.facts.size() - 1)); break;
             case 10: first(some(1)); break;
             case 11: case 12: put(someDecision(), some(5)); break;
             case 13: if (random.nextInt(3) == 0) keep(); break;
@@ -101,10 +119,19 @@ public final class OracleTest {
             case 22: without(some(y.rules.size() - 1)); break;
             case 23: spare(some(3)); break;
             case 24: case 25: why(someDecision()); break;
-            case 26: way(); break;
+            case 26: if (random.nextBoolean()) shuffle(); way(); break;
             default: clash();
         }
         state();
+    }
+
+    private void shuffle() {
+        for (int d = 0; d < y.decisions.size(); d++) put(d, random.nextInt(6));
+    }
+
+    private void anyChange() {
+        int fact = some(y.facts.size() - 1);
+        change(fact, random.nextInt(20) == 0 ? some(40) - 20 : goodFact(fact));
     }
 
     private void asked() {
