@@ -37,6 +37,7 @@ public final class PromiseTest {
         promise25Broken();
         promise26Clash();
         promise26ClashOrder();
+        fullHouse();
         due.end();
     }
 
@@ -187,8 +188,19 @@ public final class PromiseTest {
         is("told(6)", x.told(6), 0);
         is("limit(1, 7), refused", x.limit(1, 7), OUTSIDE);
         is("limit(1, 6)", x.limit(1, 6), 0);
+        for (int p = 0; p < 4; p++) limitOf(p);
         x.limit(3, 1);
         is("near(2000): 1 + 5 + 5 of person 3 times 6 of person 1", x.near(2000), 66);
+    }
+
+    private static void limitOf(int person) {
+        NearPlans x = new NearPlans();
+        x.decision(0, 1, person);
+        x.keep();
+        x.put(0, 1);
+        x.limit(person, 0);
+        is("told(6) of person " + person, x.told(6), 0);
+        is("near(2000) of person " + person, x.near(2000), 1);
     }
 
     private static void promise7Fact() {
@@ -459,6 +471,29 @@ public final class PromiseTest {
         is("run(): of most worth the least cost", x.run(), 1);
         is("value(0)", x.value(0), 0);
         is("value(1)", x.value(1), 4);
+        worthFirstTies();
+    }
+
+    private static void worthFirstTies() {
+        NearPlans x = withDecisions(2);
+        x.put(0, 4);
+        x.keep();
+        x.first(1);
+        x.worth(0, 5, 6);
+        x.worth(0, 2, 6);
+        is("run(): of one worth and one cost the lesser value", x.run(), 1);
+        is("value(0)", x.value(0), 2);
+        x.weight(0, 1, 1);
+        is("run(): 5 is nearer to 4", x.run(), 2);
+        is("value(0)", x.value(0), 5);
+        is("value(1)", x.value(1), 0);
+        x.worth(1, 5, 1);
+        is("run(): the most worth, at the highest values", x.run(), 3);
+        is("value(0)", x.value(0), 5);
+        is("value(1)", x.value(1), 5);
+        x.pin(1, 3);
+        is("run(): pinned", x.run(), 3);
+        is("value(1)", x.value(1), 3);
     }
 
     private static void promise17Undo() {
@@ -502,6 +537,22 @@ public final class PromiseTest {
         }
         is("undo(), the ninth is not known", x.undo(), STATE);
         is("value(0)", x.value(0), 2);
+        undoAcrossDecisions();
+    }
+
+    /** Nine runs, before the last of them a decision came: each gives back what was there then. */
+    private static void undoAcrossDecisions() {
+        NearPlans x = withDecisions(1);
+        for (int i = 0; i < 8; i++) x.run();
+        x.decision(0, 5, 0);
+        x.put(1, 4);
+        is("run()", x.run(), 0);
+        is("value(1)", x.value(1), 0);
+        is("undo()", x.undo(), 7);
+        is("value(1)", x.value(1), 4);
+        x.put(1, 3);
+        is("undo()", x.undo(), 6);
+        is("value(1): it came behind that run", x.value(1), 3);
     }
 
     private static void promise18Told() {
@@ -536,8 +587,9 @@ public final class PromiseTest {
         NearPlans y = new NearPlans();
         y.fact(-1);
         y.rule(5, 0, 0, 0);
-        is("told(4), without a decision", y.told(4), 1);
-        is("told(5), without a decision", y.told(5), 1);
+        y.rule(5, 0, 3, 0);
+        is("told(4), without a decision", y.told(4), 2);
+        is("told(5), without a decision", y.told(5), 3);
     }
 
     private static void promise19Near() {
@@ -851,6 +903,16 @@ public final class PromiseTest {
         x.rule(2, 3, 3, 2);
         is("clash(-1): fewer rules come first", x.clash(-1), 1);
         is("clash(0)", x.clash(0), 4);
+        NearPlans w = withDecisions(2);
+        w.fact(8);
+        w.fact(1);
+        w.rule(2, 0, 1, 0);
+        w.rule(1, 0, 1, 1);
+        w.rule(2, 0, 1, 0);
+        w.rule(1, 0, 1, 1);
+        is("clash(-1): rules 0 or 2 with 1 or 3", w.clash(-1), 2);
+        is("clash(0)", w.clash(0), 0);
+        is("clash(1)", w.clash(1), 1);
         NearPlans y = new NearPlans();
         y.fact(1);
         y.fact(2);
@@ -867,5 +929,37 @@ public final class PromiseTest {
         is("clash(-1): no value may be had", z.clash(-1), 6);
         is("clash(5)", z.clash(5), 5);
         is("clash(6)", z.clash(6), NONE);
+    }
+
+    /** As much of all as there can be: six decisions that all move as far as they can, twelve rules. */
+    private static void fullHouse() {
+        promise = 18;
+        NearPlans x = withDecisions(6);
+        for (int f = 0; f < 6; f++) x.fact(0);
+        for (int r = 0; r < 12; r++) x.rule(1, r / 2, r / 2, r / 2);
+        for (int d = 0; d < 6; d++) {
+            x.weight(d, 100, 20);
+            x.worth(d, 5, 100);
+        }
+        x.keep();
+        for (int d = 0; d < 6; d++) x.put(d, 5);
+        int[] told = {1200, 600, 6, 63, 12, 4095, 1, 0};
+        for (int i = 0; i < 8; i++) is("told(" + i + ")", x.told(i), told[i]);
+        for (int i = 0; i < 6; i++) {
+            is("way(" + i + ")", x.way(i), i);
+            is("broken(" + i + ")", x.broken(i), 2 * i + 2);
+        }
+        for (int f = 0; f < 6; f++) x.change(f, 10);
+        is("way(6)", x.way(6), NONE);
+        is("near(1199)", x.near(1199), 46655);
+        is("near(1200)", x.near(1200), 46656);
+        is("why(5): near first the base is best", x.why(5), 0);
+        x.first(1);
+        for (int d = 0; d < 6; d++) is("why(" + d + ")", x.why(d), d);
+        is("run()", x.run(), 1200);
+        for (int i = 0; i < 6; i++) x.change(i, -20);
+        is("clash(-1)", x.clash(-1), 1);
+        is("clash(0)", x.clash(0), 0);
+        is("without(11)", x.without(11), NONE);
     }
 }
