@@ -553,6 +553,14 @@ public final class PromiseTest {
         x.put(1, 3);
         is("undo()", x.undo(), 6);
         is("value(1): it came behind that run", x.value(1), 3);
+        NearPlans y = withDecisions(1);
+        y.run();
+        y.decision(0, 5, 0);
+        y.put(1, 4);
+        for (int i = 0; i < 8; i++) y.run();
+        for (int i = 7; i >= 0; i--) is("undo()", y.undo(), i);
+        is("value(1): it was there at the oldest known run", y.value(1), 4);
+        is("undo()", y.undo(), STATE);
     }
 
     private static void promise18Told() {
@@ -953,6 +961,9 @@ public final class PromiseTest {
         is("way(6)", x.way(6), NONE);
         is("near(1199)", x.near(1199), 46655);
         is("near(1200)", x.near(1200), 46656);
+        x.pin(5, 5);
+        is("why(5): pinned, whichever of the six facts were as it was", x.why(5), NONE);
+        x.pin(5, NONE);
         is("why(5): near first the base is best", x.why(5), 0);
         x.first(1);
         for (int d = 0; d < 6; d++) is("why(" + d + ")", x.why(d), d);
