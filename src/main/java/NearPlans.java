@@ -327,6 +327,9 @@ public final class NearPlans {
         private final int[] lefts = new int[RULES];
         private final int[] rights = new int[RULES];
         private final int[] factOf = new int[RULES];
+        // which rules are decided with a decision, the last of theirs, and which count a value
+        private final int[] decidedWith = new int[DECISIONS];
+        private final int[] countingValue = new int[VALUES];
 
         int addFact(int v) {
             facts[factNumber] = v;
@@ -344,6 +347,8 @@ public final class NearPlans {
             lefts[r] = a;
             rights[r] = b;
             factOf[r] = fact;
+            if (kind == COUNTING) countingValue[b] |= 1 << r;
+            else decidedWith[Math.max(a, b)] |= 1 << r;
             number++;
             return r;
         }
@@ -373,17 +378,13 @@ public final class NearPlans {
          * yet: counts only grow, so what is broken here stays broken.
          */
         int brokenAt(int[] values, int k, int[] factsThen) {
+            int touched = decidedWith[k] | countingValue[values[k]];
             int broken = 0;
             for (int r = 0; r < number; r++) {
-                if (!isDecidedAt(r, values, k)) continue;
+                if ((touched >> r & 1) == 0) continue;
                 if (!isKept(r, values, k, factsThen[factOf[r]])) broken |= 1 << r;
             }
             return broken;
-        }
-
-        private boolean isDecidedAt(int r, int[] values, int k) {
-            if (kinds[r] == COUNTING) return values[k] == rights[r];
-            return Math.max(lefts[r], rights[r]) == k;
         }
 
         private boolean isKept(int r, int[] values, int k, int bound) {
